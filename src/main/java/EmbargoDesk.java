@@ -252,11 +252,11 @@ public final class EmbargoDesk {
             return NOT_POSSIBLE;
         }
         history.remember(state);
-        int before = state.started;
+        int before = state.copiesThatCame();
         for (int passed = 0; passed < hours; passed++) {
             state.passHour();
         }
-        return state.started - before;
+        return state.copiesThatCame() - before;
     }
 
     // ---- texts
@@ -683,7 +683,6 @@ public final class EmbargoDesk {
     private static final class State {
         int hour;
         int useDays = FIRST_USE_DAYS;
-        int started;
         int corrected;
         int storyCount;
         int clientCount;
@@ -712,7 +711,6 @@ public final class EmbargoDesk {
         void copyFrom(State other) {
             hour = other.hour;
             useDays = other.useDays;
-            started = other.started;
             corrected = other.corrected;
             log.copyFrom(other.log);
             copyStories(other);
@@ -872,7 +870,6 @@ public final class EmbargoDesk {
             copy.version = story.version;
             client.today++;
             client.total++;
-            started++;
             log.add(COPY_STARTED, copy.story, copy.client, hour);
             bill(story, client);
         }
@@ -963,6 +960,17 @@ public final class EmbargoDesk {
                 Client receiver = clientAt(client);
                 if (receiver != null && receiver.hasTopic(topic)) {
                     number++;
+                }
+            }
+            return number;
+        }
+
+        int copiesThatCame() {
+            int number = 0;
+            for (int client = 0; client < clientCount; client++) {
+                Client receiver = clientAt(client);
+                if (receiver != null) {
+                    number += receiver.total;
                 }
             }
             return number;

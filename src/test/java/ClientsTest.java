@@ -10,6 +10,7 @@ public final class ClientsTest {
         addClientRefuses();
         addClientIsFullAtEight();
         addClientGetsNoOldStories();
+        addClientForgetsWhatRestoreTookBack();
         setTopicsCountsForLaterStories();
         setTopicsRefuses();
         setUpTellsOpenCopies();
@@ -65,6 +66,24 @@ public final class ClientsTest {
         desk.pass(2);
         CHECK.due("copy for a later client", desk.copy(0, 1, 0), EmbargoDesk.UNKNOWN);
         CHECK.due("copies", desk.count(3), 1);
+    }
+
+    private static void addClientForgetsWhatRestoreTookBack() {
+        EmbargoDesk desk = new EmbargoDesk();
+        desk.keep();
+        desk.addClient(255, 1, 2, 3, 2000000000);
+        Desks.release(desk, "0 1 @0 a");
+        Desks.release(desk, "0 1 @0 a");
+        desk.pass(2);
+        desk.setUp(0, false);
+        CHECK.due("it was busy", desk.client(0, 10), 1);
+        desk.restore();
+        CHECK.due("it is gone", desk.client(0, 0), EmbargoDesk.UNKNOWN);
+        CHECK.due("another one in its place", desk.addClient(7, 6, 5, 4, 3), 0);
+        int[] told = {7, 6, 5, 4, 3, 1, 0, 0, 0, 0, 0};
+        for (int what = 0; what <= 10; what++) {
+            CHECK.due("client(0, " + what + ") of the other one", desk.client(0, what), told[what]);
+        }
     }
 
     private static void setTopicsCountsForLaterStories() {

@@ -8,6 +8,8 @@ public final class HistoryTest {
         keepIsNoAct();
         restoreIsAnAct();
         snapshotIsReplaced();
+        restoreBringsBackOtherStories();
+        undoBringsBackSumsAndLog();
         CHECK.end();
     }
 
@@ -138,5 +140,123 @@ public final class HistoryTest {
         desk.undo();
         CHECK.due("hour", desk.count(0), 9);
         CHECK.due("undo leaves the snapshot", desk.restore(), 9);
+    }
+
+    /** The same numbers stand for other stories and clients in the snapshot and in the present state. */
+    private static void restoreBringsBackOtherStories() {
+        EmbargoDesk desk = new EmbargoDesk();
+        desk.keep();
+        desk.addClient(3, 1, 2, 3, 4);
+        desk.addClient(5, 6, 7, 8, 9);
+        Desks.release(desk, "0 1,0 @1 abc");
+        Desks.release(desk, "2 3 @0 d");
+        desk.pass(10);
+        desk.correct(0);
+        String first = Desks.tellAll(desk);
+        EmbargoDesk twin = new EmbargoDesk();
+        twin.addClient(1, 0, 0, 9, 1000);
+        Desks.release(twin, "0 7,8,9 @0 xyzxyz");
+        twin.pass(3);
+        twin.kill(0);
+        String second = Desks.tellAll(twin);
+
+        desk.restore();
+        desk.addClient(1, 0, 0, 9, 1000);
+        Desks.release(desk, "0 7,8,9 @0 xyzxyz");
+        desk.pass(3);
+        desk.kill(0);
+        CHECK.holds("nothing is left of what was", second.equals(Desks.tellAll(desk)));
+        desk.keep();
+        desk.restore();
+        CHECK.holds("the snapshot holds it", second.equals(Desks.tellAll(desk)));
+
+        EmbargoDesk other = new EmbargoDesk();
+        other.keep();
+        other.addClient(1, 0, 0, 9, 1000);
+        Desks.release(other, "0 7,8,9 @0 xyzxyz");
+        other.restore();
+        other.addClient(3, 1, 2, 3, 4);
+        other.addClient(5, 6, 7, 8, 9);
+        Desks.release(other, "0 1,0 @1 abc");
+        Desks.release(other, "2 3 @0 d");
+        other.pass(10);
+        other.correct(0);
+        CHECK.holds("nothing is left of the others", first.equals(Desks.tellAll(other)));
+        other.keep();
+        for (int i = 0; i < 4; i++) {
+            other.undo();
+        }
+        CHECK.due("one story is left", other.count(2), 1);
+        Desks.read(other, "7 4 @500 q");
+        CHECK.due("another second one", other.story(1, 0), 7);
+        CHECK.due("restore", other.restore(), 10);
+        CHECK.holds("all as it was kept", first.equals(Desks.tellAll(other)));
+        CHECK.due("undo", other.undo(), 1);
+        CHECK.due("the other second one again", other.story(1, 0), 7);
+        CHECK.due("its person", other.byline(1, 0), 4);
+        CHECK.due("its letter", other.slugChar(1, 0), 'q');
+        CHECK.due("its letters", other.story(1, 7), 1);
+        other.undo();
+        other.addClient(255, 9, 8, 7, 6);
+        other.undo();
+        other.addClient(254, 8, 7, 6, 5);
+        other.setUp(2, false);
+        other.restore();
+        other.undo();
+        int[] told = {254, 8, 7, 6, 5, 0};
+        for (int what = 0; what < told.length; what++) {
+            CHECK.due("client(2, " + what + ")", other.client(2, what), told[what]);
+        }
+        otherBylinesOfOneNumber();
+    }
+
+    private static void otherBylinesOfOneNumber() {
+        EmbargoDesk desk = new EmbargoDesk();
+        Desks.read(desk, "0 1,2 @5 ab");
+        desk.addClient(1, 0, 0, 1, 11);
+        desk.keep();
+        desk.undo();
+        desk.undo();
+        Desks.read(desk, "0 3,4,5 @6 xyz");
+        desk.addClient(2, 0, 0, 1, 12);
+        desk.restore();
+        int[] kept = {2, 1, 2, EmbargoDesk.NONE, 5, 2, 'a', 'b', EmbargoDesk.NONE, 11};
+        tellShort(desk, kept);
+        desk.undo();
+        int[] before = {3, 3, 4, 5, 6, 3, 'x', 'y', 'z', 12};
+        tellShort(desk, before);
+    }
+
+    private static void tellShort(EmbargoDesk desk, int[] due) {
+        int[] told = {desk.story(0, 1), desk.byline(0, 0), desk.byline(0, 1), desk.byline(0, 2), desk.story(0, 2),
+            desk.story(0, 7), desk.slugChar(0, 0), desk.slugChar(0, 1), desk.slugChar(0, 2), desk.client(0, 4)};
+        for (int i = 0; i < told.length; i++) {
+            CHECK.due("part " + i + " of the story", told[i], due[i]);
+        }
+    }
+
+    private static void undoBringsBackSumsAndLog() {
+        EmbargoDesk desk = new EmbargoDesk();
+        desk.addClient(1, 0, 0, 9, 2000000000);
+        desk.addClient(1, 0, 0, 9, 2000000000);
+        Desks.release(desk, "0 0 @0 a");
+        Desks.release(desk, "0 0,9 @50 a");
+        desk.pass(1);
+        CHECK.due("got", desk.person(0, 0), 2000000000);
+        CHECK.due("lost", desk.person(0, 1), 1);
+        CHECK.due("persons", desk.count(11), 2);
+        desk.undo();
+        CHECK.due("got nothing", desk.person(0, 0), 0);
+        CHECK.due("lost nothing", desk.person(0, 1), 0);
+        CHECK.due("no event", desk.event(0, 0), EmbargoDesk.NONE);
+        desk.keep();
+        CHECK.due("would come", desk.wouldCome(0, 1), 1);
+        desk.pass(1);
+        CHECK.due("got once more", desk.person(0, 0), 2000000000);
+        CHECK.due("lost once more", desk.person(0, 1), 1);
+        desk.restore();
+        CHECK.due("got nothing", desk.person(0, 0), 0);
+        CHECK.due("lost nothing", desk.person(0, 1), 0);
+        CHECK.due("no event", desk.event(0, 3), EmbargoDesk.NONE);
     }
 }

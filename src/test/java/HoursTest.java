@@ -316,11 +316,18 @@ public final class HoursTest {
         CHECK.due("2147483646 = 7 * 306783378", exact.client(0, 6), 2147483646);
         CHECK.due("not billed", exact.client(0, 10), 1);
 
-        EmbargoDesk most = new EmbargoDesk();
-        most.addClient(1, 0, 0, 9, 2147483647 / 1117);
-        Desks.release(most, "0 1 @0 a");
-        most.pass(1);
-        CHECK.due("a small one", most.client(0, 6), 1922545);
+        for (int more = 0; more <= 1; more++) {
+            EmbargoDesk most = new EmbargoDesk();
+            most.addClient(255, 0, 0, 9, 2000000000);
+            Desks.release(most, "0 1 @0 a");
+            most.pass(1);
+            CHECK.due("pay", most.pay(0, 2000000000 - 147483647 - more), 147483647 + more);
+            Desks.release(most, "0 2 @0 b");
+            most.pass(1);
+            CHECK.due("2147483647 may be owed, no more", most.client(0, 6), more == 0 ? 2147483647 : 147483648);
+            CHECK.due("not billed", most.client(0, 10), more);
+            CHECK.due("got", most.person(2, 0), more == 0 ? 2000000000 : 0);
+        }
     }
 
     private static void sharesThatAreLost() {

@@ -53,46 +53,28 @@ public final class StoriesTest {
         CHECK.due("story 20", desk.story(20, 0), EmbargoDesk.UNKNOWN);
     }
 
+    /** A story takes the place of another one that restore, or undo, took back: nothing of that one is left. */
     private static void readStoryForgetsWhatUndoLeft() {
         EmbargoDesk desk = new EmbargoDesk();
-        desk.addClient(255, 0, 0, 9, 3);
-        Desks.read(desk, "5 1,2,3 @0 abcdef");
         desk.keep();
-        desk.release(0);
+        Desks.release(desk, "5 1,2,3 @0 abcdef");
         desk.pass(1);
         desk.correct(0);
         desk.kill(0);
-        for (int i = 0; i < 4; i++) {
-            desk.undo();
-        }
         desk.restore();
-        desk.undo();
-        CHECK.due("state", desk.story(0, 3), 0);
-        CHECK.due("version", desk.story(0, 4), 0);
-        CHECK.due("published", desk.story(0, 5), EmbargoDesk.NONE);
-        EmbargoDesk fresh = new EmbargoDesk();
-        Desks.release(fresh, "5 1,2,3 @0 abcdef");
-        fresh.pass(1);
-        fresh.correct(0);
-        fresh.kill(0);
-        for (int i = 0; i < 4; i++) {
-            fresh.undo();
-        }
-        CHECK.due("no state is left before the story", fresh.undo(), EmbargoDesk.NONE);
-        EmbargoDesk again = new EmbargoDesk();
-        Desks.read(again, "5 1,2,3 @0 abcdef");
-        again.kill(0);
-        again.undo();
-        again.undo();
-        CHECK.due("the story is gone", again.count(2), 0);
-        CHECK.due("another one in its place", Desks.read(again, "1 4 @9 b"), 0);
+        CHECK.due("the story is gone", desk.count(2), 0);
+        CHECK.due("nor is it told", desk.story(0, 0), EmbargoDesk.UNKNOWN);
+        CHECK.due("another one in its place", Desks.read(desk, "1 4 @9 b"), 0);
         int[] told = {1, 1, 9, 0, 0, EmbargoDesk.NONE, EmbargoDesk.NONE, 1, 0, 0, 0};
         for (int what = 0; what <= 10; what++) {
-            CHECK.due("story(0, " + what + ") of the other one", again.story(0, what), told[what]);
+            CHECK.due("story(0, " + what + ") of the other one", desk.story(0, what), told[what]);
         }
-        CHECK.due("its second person", again.byline(0, 1), EmbargoDesk.NONE);
-        CHECK.due("its second letter", again.slugChar(0, 1), EmbargoDesk.NONE);
-        CHECK.due("persons in all bylines", again.count(11), 1);
+        CHECK.due("its first person", desk.byline(0, 0), 4);
+        CHECK.due("its second person", desk.byline(0, 1), EmbargoDesk.NONE);
+        CHECK.due("its first letter", desk.slugChar(0, 0), 'b');
+        CHECK.due("its second letter", desk.slugChar(0, 1), EmbargoDesk.NONE);
+        CHECK.due("its first correction", desk.correction(0, 0), EmbargoDesk.NONE);
+        CHECK.due("persons in all bylines", desk.count(11), 1);
     }
 
     private static void releaseTellsClients() {

@@ -42,6 +42,14 @@ public final class ToldTest {
             CHECK.due("story(0, " + what + ")", desk.story(0, what), told[what]);
         }
         desk.setUp(1, false);
+        desk.pass(6);
+        CHECK.due("one in use has its version", desk.story(0, 10), 1);
+        desk.setUp(1, true);
+        desk.pass(1);
+        CHECK.due("two have it, the planned one not", desk.story(0, 10), 2);
+        desk.undo();
+        desk.undo();
+        desk.undo();
         desk.kill(0);
         desk.pass(1);
         int[] then = {5, 2, 2, 3, 1, 2, 3, 4, 3, 1, 0};
