@@ -27,6 +27,7 @@ public final class FaceTest {
         CHECK.due("constructors", constructors.length, 1);
         CHECK.due("their parameters", constructors[0].getParameterCount(), 0);
         CHECK.holds("public constructor", Modifier.isPublic(constructors[0].getModifiers()));
+        CHECK.holds("some twelve classes", EmbargoDesk.class.getDeclaredClasses().length + 1 <= 12);
         for (Class<?> inside : EmbargoDesk.class.getDeclaredClasses()) {
             int modifiers = inside.getModifiers();
             CHECK.holds(inside + " is static and not public",

@@ -350,7 +350,7 @@ public final class LimitsTest {
         CHECK.due("notice", desk.copy(1, 0, 7), 10000);
     }
 
-    static void promise27_and28_lookBehind9999() {
+    static void promises27and28_lookBehind9999() {
         EmbargoDesk desk = Scenes.oneClient(48, 24, 0);
         Desks.read(desk, "0 1 @999 a");
         Scenes.passTo(desk, 9999);

@@ -244,6 +244,24 @@ public final class TimesTest {
         }
     }
 
+    static void promise13_droppedWhetherItsClientIsUpOrDown() {
+        for (int down = 0; down <= 1; down++) {
+            EmbargoDesk desk = Scenes.oneClient(4, 24, 0);
+            Desks.release(desk, "0 1 @0 a");
+            desk.pass(1);
+            if (down == 1) {
+                desk.setUp(0, false);
+            }
+            desk.kill(0);
+            desk.pass(1);
+            copyIs("dropped", desk, DROPPED);
+            CHECK.due("the latest event is the kill", desk.event(0, 0), 6);
+            desk.setUp(0, true);
+            desk.pass(10);
+            copyIs("dropped for ever", desk, DROPPED);
+        }
+    }
+
     static void promise13_versionOfTheHourInWhichItComes() {
         EmbargoDesk desk = Scenes.oneClient(3, 24, 0);
         Desks.release(desk, "0 1 @0 a");
@@ -420,6 +438,28 @@ public final class TimesTest {
         CHECK.due("and no correction", desk.copy(0, 0, 3), 0);
     }
 
+    static void promise04_nothingHappensBeforeTheNextHour() {
+        EmbargoDesk desk = Desks.withCopyInUse(0, 0);
+        Desks.release(desk, "0 1 @0 b");
+        desk.setUp(0, false);
+        desk.correct(0);
+        desk.pass(1);
+        desk.setUp(0, true);
+        CHECK.due("the correction waits", desk.copy(0, 0, 3), 0);
+        CHECK.due("the planned copy waits", desk.copy(1, 0, 0), PLANNED);
+        CHECK.due("corrections so far", desk.count(10), 0);
+        desk.pass(1);
+        CHECK.due("the correction came", desk.copy(0, 0, 3), 1);
+        CHECK.due("the planned copy came", desk.copy(1, 0, 2), 3);
+        desk.setUp(0, false);
+        desk.kill(0);
+        desk.pass(1);
+        desk.setUp(0, true);
+        copyIs("the notice waits", desk, IN_USE);
+        desk.pass(1);
+        copyIs("the notice came", desk, WITHDRAWN);
+    }
+
     // ---- what is told of copies at these hours
 
     static void promise25_dueCorrectionsAtTheHour() {
@@ -434,6 +474,24 @@ public final class TimesTest {
             CHECK.due("copies with them at " + (1 + passed), desk.count(9), due[passed]);
             desk.pass(1);
         }
+    }
+
+    static void promise25_correctionsOfAKilledStory() {
+        EmbargoDesk desk = Desks.withCopyInUse(8, 0);
+        desk.correct(0);
+        desk.pass(1);
+        desk.correct(0);
+        desk.kill(0);
+        int[] told = {1, 1, 1, 0, 2, 0, 9, 6, 73};
+        for (int what = 0; what < told.length; what++) {
+            CHECK.due("copy(0, 0, " + what + ")", desk.copy(0, 0, what), told[what]);
+        }
+        desk.setUp(0, false);
+        desk.pass(7);
+        CHECK.due("due at hour 9, behind the notice", desk.copy(0, 0, 5), 1);
+        CHECK.due("next at hour 9", desk.copy(0, 0, 6), 9);
+        CHECK.due("notice at hour 9", desk.copy(0, 0, 7), 6);
+        CHECK.due("copies with corrections that are due", desk.count(9), 1);
     }
 
     static void promise30_dueCorrectionsWhetherDownOrUp() {

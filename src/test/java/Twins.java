@@ -17,7 +17,13 @@ final class Twins {
 
     /** Returns what differs, or an empty text. */
     static String difference(Supplier<EmbargoDesk> one, Supplier<EmbargoDesk> other) {
-        for (Consumer<EmbargoDesk> later : laters()) {
+        return difference(one, other, LATERS);
+    }
+
+    /** The same, but with other calls between the making of the desks and the questions. */
+    static String difference(Supplier<EmbargoDesk> one, Supplier<EmbargoDesk> other,
+            List<Consumer<EmbargoDesk>> laters) {
+        for (Consumer<EmbargoDesk> later : laters) {
             List<ToIntFunction<EmbargoDesk>> questions = questions(size(one, later), size(other, later));
             for (int first = 0; first < questions.size(); first += QUESTIONS_OF_ONE_DESK) {
                 EmbargoDesk mine = one.get();
@@ -29,7 +35,7 @@ final class Twins {
                     int told = questions.get(number).applyAsInt(mine);
                     int due = questions.get(number).applyAsInt(theirs);
                     if (told != due) {
-                        return "question " + number + " later " + laters().indexOf(later) + ": " + told + ", not " + due;
+                        return "question " + number + " later " + laters.indexOf(later) + ": " + told + ", not " + due;
                     }
                 }
             }
@@ -38,10 +44,6 @@ final class Twins {
     }
 
     /** What is done before the questions: nothing, and all that shows the history, the snapshot and the text. */
-    private static List<Consumer<EmbargoDesk>> laters() {
-        return LATERS;
-    }
-
     private static final List<Consumer<EmbargoDesk>> LATERS = List.of(
         desk -> { },
         desk -> undo(desk, 1), desk -> undo(desk, 2), desk -> undo(desk, 3), desk -> undo(desk, 4), desk -> undo(desk, 5),
