@@ -4,8 +4,8 @@ import java.util.regex.Pattern;
 
 /** Each of the 30 promises has a test of a boundary that bears its number, and no such test is out of reach. */
 public final class PromisesTest {
-    private static final Class<?>[] TESTS = {ActsTest.class, EmptyTest.class, LimitsTest.class, OrdersTest.class,
-        RangesTest.class, RefusedTest.class, SumsTest.class, TextBoundsTest.class, TimesTest.class};
+    private static final Class<?>[] TESTS = {ActsTest.class, EmptyTest.class, InterplayTest.class, LimitsTest.class,
+        OrdersTest.class, RangesTest.class, RefusedTest.class, SumsTest.class, TextBoundsTest.class, TimesTest.class};
 
     private static final Check CHECK = new Check("PromisesTest");
 
